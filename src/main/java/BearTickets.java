@@ -91,7 +91,7 @@ public final class BearTickets {
     private final Show best;
     private final Weather weather;
     private final Rows rows;
-    private Zoo told;
+    private Zoo park;
     private Zoo spare;
     private final Memory now;
     private final Memory[] marks;
@@ -107,7 +107,7 @@ public final class BearTickets {
         best = new Show();
         weather = new Weather();
         rows = new Rows();
-        told = new Zoo();
+        park = new Zoo();
         spare = new Zoo();
         now = new Memory();
         marks = new Memory[MARKS];
@@ -119,8 +119,8 @@ public final class BearTickets {
         for (int i = 0; i < UNDOS; i++) {
             past[i] = new State();
         }
-        told.clear();
-        told.close();
+        park.clear();
+        park.close();
     }
 
     public int feed(long a, long b, long c) {
@@ -133,10 +133,10 @@ public final class BearTickets {
     public int zoo() {
         int fault = reader.readZoo(spare);
         if (fault == 0) {
-            Zoo old = told;
-            told = spare;
+            Zoo old = park;
+            park = spare;
             spare = old;
-            now.begin(told.start);
+            now.begin(park.start);
             undos = 0;
             best.fresh = false;
             for (int i = 0; i < MARKS; i++) {
@@ -147,7 +147,7 @@ public final class BearTickets {
     }
 
     public int days() {
-        int fault = reader.readDays(told);
+        int fault = reader.readDays(park);
         if (fault == 0) {
             now.takeDays(reader.lines, reader.lineCount);
         }
@@ -160,11 +160,11 @@ public final class BearTickets {
         }
         switch (what) {
             case 0:
-                return told.seats[pen];
+                return park.seats[pen];
             case 1:
-                return now.state.guestsIn(pen, told.guests);
+                return now.state.guestsIn(pen, park.guests);
             case 2:
-                clock.foresee(told, now.state, true);
+                clock.foresee(park, now.state, true);
                 return clock.watchers[pen];
             default:
                 return NONE;
@@ -177,13 +177,13 @@ public final class BearTickets {
         }
         switch (what) {
             case 0:
-                return told.kinds[guest];
+                return park.kinds[guest];
             case 1:
                 return now.state.mood[guest];
             case 2:
                 return now.state.where[guest];
             case 3:
-                clock.foresee(told, now.state, true);
+                clock.foresee(park, now.state, true);
                 return clock.moodAfter[guest];
             default:
                 return NONE;
@@ -196,14 +196,14 @@ public final class BearTickets {
         }
         switch (what) {
             case 0:
-                return told.likes[animal];
+                return park.likes[animal];
             case 1:
                 return now.state.coins[animal];
             case 2:
-                clock.foresee(told, now.state, true);
+                clock.foresee(park, now.state, true);
                 return clock.chosen[animal];
             case 3:
-                clock.foresee(told, now.state, true);
+                clock.foresee(park, now.state, true);
                 return clock.paid[animal];
             default:
                 return REFUSED;
@@ -214,8 +214,8 @@ public final class BearTickets {
         if (!isAnimal(animal) || !isPen(pen)) {
             return NONE;
         }
-        clock.weigh(told, now.state);
-        return clock.worthToKind(told.likes[animal], pen);
+        clock.weigh(park, now.state);
+        return clock.worthToKind(park.likes[animal], pen);
     }
 
     public boolean move(int guest, int pen) {
@@ -252,12 +252,12 @@ public final class BearTickets {
         }
         int refused = NONE;
         int pacing = NONE;
-        trial.copy(told.start);
+        trial.copy(park.start);
         for (int i = 0; i < now.lineCount; i++) {
-            if (!clock.obey(told, trial, now.lines[i]) && refused == NONE) {
+            if (!clock.obey(park, trial, now.lines[i]) && refused == NONE) {
                 refused = i;
             }
-            if (pacing == NONE && trial.pacing(told.guests) != 0) {
+            if (pacing == NONE && trial.pacing(park.guests) != 0) {
                 pacing = i;
             }
         }
@@ -266,9 +266,9 @@ public final class BearTickets {
 
     public int show(int what) {
         if (!best.fresh) {
-            best.search(told, now.state);
+            best.search(park, now.state);
         }
-        if (!best.found || what < 0 || what >= 2 + told.guests) {
+        if (!best.found || what < 0 || what >= 2 + park.guests) {
             return NONE;
         }
         return what == 0 ? best.taken : what == 1 ? best.pacing : best.row[what - 2];
@@ -278,10 +278,10 @@ public final class BearTickets {
         if (now.toldCount >= MOST_TOLD) {
             return false;
         }
-        if (pen != NONE && (!isPen(pen) || told.seats[pen] == 0)) {
+        if (pen != NONE && (!isPen(pen) || park.seats[pen] == 0)) {
             return false;
         }
-        now.sets &= clock.setsChoosing(told, now.state, pen);
+        now.sets &= clock.setsChoosing(park, now.state, pen);
         now.toldCount++;
         return true;
     }
@@ -310,8 +310,8 @@ public final class BearTickets {
         int all = Integer.bitCount(now.sets);
         int least = all;
         int answer = NONE;
-        for (int guest = 0; guest < told.guests; guest++) {
-            int come = Integer.bitCount(now.sets & told.setsDrawnBy(guest, now.state.mood[guest]));
+        for (int guest = 0; guest < park.guests; guest++) {
+            int come = Integer.bitCount(now.sets & park.setsDrawnBy(guest, now.state.mood[guest]));
             int greater = Math.max(come, all - come);
             if (greater < least) {
                 least = greater;
@@ -325,14 +325,14 @@ public final class BearTickets {
         if (guest != NONE && !isGuest(guest)) {
             return REFUSED;
         }
-        int fewest = rows.keepApart(told);
+        int fewest = rows.keepApart(park);
         return guest == NONE ? fewest : rows.row[guest];
     }
 
     public int tyres() {
         int answer = NONE;
         int fewest = GUESTS + 1;
-        for (int set = 0; set < 1 << told.guests; set++) {
+        for (int set = 0; set < 1 << park.guests; set++) {
             if (Integer.bitCount(set) < fewest && tyresHelp(set)) {
                 fewest = Integer.bitCount(set);
                 answer = set;
@@ -345,7 +345,7 @@ public final class BearTickets {
         if (!isPen(pen) || what < 0) {
             return NONE;
         }
-        rows.walkFrom(told, now.state, pen);
+        rows.walkFrom(park, now.state, pen);
         if (rows.minutes >= FAR || what > rows.length) {
             return NONE;
         }
@@ -378,7 +378,7 @@ public final class BearTickets {
             return REFUSED;
         }
         trial.copy(now.state);
-        return weather.chance(told, trial, guest, hours);
+        return weather.chance(park, trial, guest, hours);
     }
 
     public int first(int hours) {
@@ -387,10 +387,10 @@ public final class BearTickets {
         }
         int answer = NONE;
         int least = MILLION + 1;
-        for (int guest = 0; guest < told.guests; guest++) {
+        for (int guest = 0; guest < park.guests; guest++) {
             trial.copy(now.state);
-            told.cheer(trial, guest);
-            int chance = weather.chance(told, trial, NONE, hours);
+            park.cheer(trial, guest);
+            int chance = weather.chance(park, trial, NONE, hours);
             if (chance < least) {
                 least = chance;
                 answer = guest;
@@ -404,8 +404,8 @@ public final class BearTickets {
             return NONE;
         }
         trial.copy(now.state);
-        weather.liveOn(told, trial, seed, hours);
-        return what == 0 ? weather.takenInAll : what == 1 ? weather.pacedInAll : trial.moodsTogether(told.guests);
+        weather.liveOn(park, trial, seed, hours);
+        return what == 0 ? weather.takenInAll : what == 1 ? weather.pacedInAll : trial.moodsTogether(park.guests);
     }
 
     public boolean mark(int mark, boolean back) {
@@ -426,23 +426,23 @@ public final class BearTickets {
     public int count(int what) {
         switch (what) {
             case 0:
-                return told.pens;
+                return park.pens;
             case 1:
-                return told.guests;
+                return park.guests;
             case 2:
-                return told.animals;
+                return park.animals;
             case 3:
-                return told.paths;
+                return park.paths;
             case 4:
-                return told.foePairs;
+                return park.foePairs();
             case 5:
                 return now.state.hour;
             case 6:
                 return now.state.taken;
             case 7:
-                return now.state.pacing(told.guests);
+                return now.state.pacing(park.guests);
             case 8:
-                return now.state.coinsTogether(told.animals);
+                return now.state.coinsTogether(park.animals);
             case 9:
                 return now.lineCount;
             case 10:
@@ -457,15 +457,15 @@ public final class BearTickets {
     }
 
     private boolean isPen(int pen) {
-        return pen >= 0 && pen < told.pens;
+        return pen >= 0 && pen < park.pens;
     }
 
     private boolean isGuest(int guest) {
-        return guest >= 0 && guest < told.guests;
+        return guest >= 0 && guest < park.guests;
     }
 
     private boolean isAnimal(int animal) {
-        return animal >= 0 && animal < told.animals;
+        return animal >= 0 && animal < park.animals;
     }
 
     private static int lineOf(int verb, int guest, int pen) {
@@ -475,7 +475,7 @@ public final class BearTickets {
     // It is tried aside first: what can't be must not push the oldest undo out.
     private boolean act(int line) {
         trial.copy(now.state);
-        if (!clock.obey(told, trial, line)) {
+        if (!clock.obey(park, trial, line)) {
             return false;
         }
         past[pastEnd].copy(now.state);
@@ -488,13 +488,13 @@ public final class BearTickets {
 
     private boolean tyresHelp(int set) {
         trial.copy(now.state);
-        for (int guest = 0; guest < told.guests; guest++) {
+        for (int guest = 0; guest < park.guests; guest++) {
             if ((set >> guest & 1) != 0) {
-                told.cheer(trial, guest);
+                park.cheer(trial, guest);
             }
         }
-        clock.pass(told, trial, true);
-        return trial.pacing(told.guests) == 0;
+        clock.pass(park, trial, true);
+        return trial.pacing(park.guests) == 0;
     }
 
     private static int kindsInAll(int sets) {
@@ -632,7 +632,6 @@ public final class BearTickets {
         int guests;
         int animals;
         int paths;
-        int foePairs;
         int feedingHour;
         int tyreMood;
         int tyreCost;
@@ -657,7 +656,6 @@ public final class BearTickets {
             guests = 0;
             animals = 0;
             paths = 0;
-            foePairs = 0;
             feedingHour = 3;
             tyreMood = 3;
             tyreCost = 5;
@@ -751,6 +749,14 @@ public final class BearTickets {
                 }
             }
             return drawn;
+        }
+
+        int foePairs() {
+            int ends = 0;
+            for (int guest = 0; guest < guests; guest++) {
+                ends += Integer.bitCount(foes[guest]);
+            }
+            return ends / 2;
         }
 
         boolean canGo(State state, int guest, int pen) {
@@ -930,10 +936,9 @@ public final class BearTickets {
             this.tape = tape;
         }
 
-        boolean read(int allowedFacts) {
+        void begin(int allowedFacts) {
             allowed = allowedFacts;
             size = 0;
-            return readTests(0);
         }
 
         private void put(int step) {
@@ -943,7 +948,7 @@ public final class BearTickets {
             }
         }
 
-        private boolean readTests(int depth) {
+        boolean readTests(int depth) {
             boolean good = readTest(depth);
             for (int i = 0; good && i < TAPE && (tape.isWord(W_AND) || tape.isWord(W_OR)); i++) {
                 int step = tape.word == W_AND ? AND : OR;
@@ -1002,11 +1007,14 @@ public final class BearTickets {
                 return true;
             }
             tape.step();
-            if (open) {
-                return readTests(depth + 1) && tape.passSign(')');
+            boolean good = open ? readTests(depth + 1) : readPart(depth + 1);
+            if (not) {
+                put(NOT);
+            } else if (good && tape.kind != ')') {
+                good = tape.fail(MISPLACED);
+            } else if (good) {
+                tape.step();
             }
-            boolean good = readPart(depth + 1);
-            put(NOT);
             return good;
         }
 
@@ -1104,11 +1112,15 @@ public final class BearTickets {
                 case W_FOE:
                     return readFoe(zoo);
                 case W_FEEDS:
+                    return isFirst(zoo) && readFeeds(zoo);
                 case W_TYRE:
+                    return isFirst(zoo) && readTyre(zoo);
                 case W_RAIN:
+                    return isFirst(zoo) && readRain(zoo);
                 case W_SEES:
+                    return isFirst(zoo) && readSees(zoo);
                 case W_MOODS:
-                    return readOnce(zoo, tape.word);
+                    return isFirst(zoo) && readMoods(zoo);
                 default:
                     return tape.fail(MISPLACED);
             }
@@ -1208,37 +1220,26 @@ public final class BearTickets {
             tape.step();
             zoo.foes[one] |= 1 << other;
             zoo.foes[other] |= 1 << one;
-            zoo.foePairs++;
             return true;
         }
 
-        private boolean readOnce(Zoo zoo, int word) {
-            if ((zoo.once >> word & 1) != 0) {
+        private boolean isFirst(Zoo zoo) {
+            if ((zoo.once >> tape.word & 1) != 0) {
                 return tape.fail(TWICE);
             }
-            zoo.once |= 1 << word;
-            tape.step();
-            switch (word) {
-                case W_FEEDS:
-                    return readFeeds(zoo);
-                case W_TYRE:
-                    return readTyre(zoo);
-                case W_RAIN:
-                    return readRain(zoo);
-                case W_SEES:
-                    return readSees(zoo);
-                default:
-                    return readMoods(zoo);
-            }
+            zoo.once |= 1 << tape.word;
+            return true;
         }
 
         private boolean readFeeds(Zoo zoo) {
+            tape.step();
             boolean good = passNumber(0, CLOCK - 1);
             zoo.feedingHour = number;
             return good;
         }
 
         private boolean readTyre(Zoo zoo) {
+            tape.step();
             if (!passNumber(1, TOP_MOOD)) {
                 return false;
             }
@@ -1249,13 +1250,16 @@ public final class BearTickets {
         }
 
         private boolean readRain(Zoo zoo) {
+            tape.step();
             boolean good = passNumber(0, ODDS);
             zoo.rainOdds = number;
             return good;
         }
 
         private boolean readSees(Zoo zoo) {
-            if (!formula.read(FACTS_OF_SEES)) {
+            tape.step();
+            formula.begin(FACTS_OF_SEES);
+            if (!formula.readTests(0)) {
                 return false;
             }
             zoo.lawOfSees(formula);
@@ -1263,7 +1267,9 @@ public final class BearTickets {
         }
 
         private boolean readMoods(Zoo zoo) {
-            if (!formula.read(FACTS_OF_MOODS)) {
+            tape.step();
+            formula.begin(FACTS_OF_MOODS);
+            if (!formula.readTests(0)) {
                 return false;
             }
             zoo.lawOfMoods(formula);
