@@ -11,6 +11,7 @@ public final class BearTickets {
     private static final int ANIMALS = 5;
     private static final int KINDS = 4;
     private static final int SETS = 16;
+    private static final int CROWDS = 64;
     private static final int ALL_SETS = 65535;
     private static final int MOST_TOLD = 8;
     private static final int UNDOS = 16;
@@ -20,6 +21,10 @@ public final class BearTickets {
     private static final int MOODS = 10;
     private static final int TOP_MOOD = 9;
     private static final int TOP_WORTH = 99;
+    private static final int TOP_SEATS = 9;
+    private static final int TOP_MINUTES = 30;
+    private static final int TOP_COINS = 999;
+    private static final int TOP_TYRE_COST = 99;
     private static final int ODDS = 10;
     private static final int CLOCK = 10;
     private static final int MILLION = 1000000;
@@ -215,7 +220,7 @@ public final class BearTickets {
             return NONE;
         }
         clock.weigh(park, now.state);
-        return clock.worthToKind(park.likes[animal], pen);
+        return clock.worthTo(1 << park.likes[animal], pen);
     }
 
     public boolean move(int guest, int pen) {
@@ -771,10 +776,10 @@ public final class BearTickets {
     /** The signs that wait to be read, and the token at hand while they are. */
     private static final class Tape {
         // Kinds of token; a sign's kind is the sign itself.
-        static final int END = 0;
-        static final int WORD = 1;
-        static final int NUMBER = 2;
-        static final int BAD = 3;
+        private static final int END = 0;
+        private static final int WORD = 1;
+        private static final int NUMBER = 2;
+        private static final int BAD = 3;
 
         final byte[] signs = new byte[TAPE];
         final long[] words = new long[WORD_COUNT];
@@ -914,16 +919,16 @@ public final class BearTickets {
     /** A law: read from the tape into steps for a stack, and worked out for the facts. */
     private static final class Formula {
         // A step of 0 or more puts that number on the stack; -1 and below, down to -FACTS, puts a fact.
-        static final int NOT = -10;
-        static final int AND = -11;
-        static final int OR = -12;
-        static final int LESS = -13;
-        static final int SAME = -14;
-        static final int PLUS = -15;
-        static final int MINUS = -16;
-        static final int TIMES = -17;
+        private static final int NOT = -10;
+        private static final int AND = -11;
+        private static final int OR = -12;
+        private static final int LESS = -13;
+        private static final int SAME = -14;
+        private static final int PLUS = -15;
+        private static final int MINUS = -16;
+        private static final int TIMES = -17;
         // Four values wait in each of the five depths at most.
-        static final int STACK = 32;
+        private static final int STACK = 32;
 
         final Tape tape;
         final int[] facts = new int[FACTS];
@@ -936,9 +941,10 @@ public final class BearTickets {
             this.tape = tape;
         }
 
-        void begin(int allowedFacts) {
+        boolean read(int allowedFacts) {
             allowed = allowedFacts;
             size = 0;
+            return readTests(0);
         }
 
         private void put(int step) {
@@ -948,7 +954,7 @@ public final class BearTickets {
             }
         }
 
-        boolean readTests(int depth) {
+        private boolean readTests(int depth) {
             boolean good = readTest(depth);
             for (int i = 0; good && i < TAPE && (tape.isWord(W_AND) || tape.isWord(W_OR)); i++) {
                 int step = tape.word == W_AND ? AND : OR;
@@ -1077,6 +1083,7 @@ public final class BearTickets {
         int number;
         long name;
         int found;
+        int partner;
 
         Reader(Tape tape) {
             this.tape = tape;
@@ -1131,7 +1138,7 @@ public final class BearTickets {
                 return tape.fail(TOO_MANY);
             }
             tape.step();
-            if (!passNewName(zoo) || !tape.passWord(W_SEATS) || !passNumber(0, 9)) {
+            if (!passNewName(zoo) || !tape.passWord(W_SEATS) || !passNumber(0, TOP_SEATS)) {
                 return false;
             }
             zoo.penNames[zoo.pens] = name;
@@ -1141,25 +1148,20 @@ public final class BearTickets {
         }
 
         private boolean readPath(Zoo zoo) {
-            tape.step();
-            if (!isTold(zoo.penNames, zoo.pens)) {
+            if (!isPair(zoo.penNames, zoo.pens)) {
                 return false;
             }
-            int one = found;
-            tape.step();
-            if (!isTold(zoo.penNames, zoo.pens)) {
-                return false;
-            }
-            int other = found;
-            if (one == other || zoo.minutes[one * PENS + other] < FAR) {
+            int there = partner * PENS + found;
+            int back = found * PENS + partner;
+            if (zoo.minutes[there] < FAR) {
                 return tape.fail(TWICE);
             }
             tape.step();
-            if (!passNumber(1, 30)) {
+            if (!passNumber(1, TOP_MINUTES)) {
                 return false;
             }
-            zoo.minutes[one * PENS + other] = number;
-            zoo.minutes[other * PENS + one] = number;
+            zoo.minutes[there] = number;
+            zoo.minutes[back] = number;
             zoo.paths++;
             return true;
         }
@@ -1193,7 +1195,7 @@ public final class BearTickets {
             if (!passNewName(zoo) || !tape.passWord(W_LIKES) || !passKind()) {
                 return false;
             }
-            if (!tape.passWord(W_COINS) || !passNumber(0, 999)) {
+            if (!tape.passWord(W_COINS) || !passNumber(0, TOP_COINS)) {
                 return false;
             }
             zoo.animalNames[zoo.animals] = name;
@@ -1204,22 +1206,15 @@ public final class BearTickets {
         }
 
         private boolean readFoe(Zoo zoo) {
-            tape.step();
-            if (!isTold(zoo.guestNames, zoo.guests)) {
+            if (!isPair(zoo.guestNames, zoo.guests)) {
                 return false;
             }
-            int one = found;
-            tape.step();
-            if (!isTold(zoo.guestNames, zoo.guests)) {
-                return false;
-            }
-            int other = found;
-            if (one == other || (zoo.foes[one] >> other & 1) != 0) {
+            if ((zoo.foes[partner] >> found & 1) != 0) {
                 return tape.fail(TWICE);
             }
             tape.step();
-            zoo.foes[one] |= 1 << other;
-            zoo.foes[other] |= 1 << one;
+            zoo.foes[partner] |= 1 << found;
+            zoo.foes[found] |= 1 << partner;
             return true;
         }
 
@@ -1244,7 +1239,7 @@ public final class BearTickets {
                 return false;
             }
             zoo.tyreMood = number;
-            boolean good = tape.passWord(W_COSTS) && passNumber(0, 99);
+            boolean good = tape.passWord(W_COSTS) && passNumber(0, TOP_TYRE_COST);
             zoo.tyreCost = number;
             return good;
         }
@@ -1258,8 +1253,7 @@ public final class BearTickets {
 
         private boolean readSees(Zoo zoo) {
             tape.step();
-            formula.begin(FACTS_OF_SEES);
-            if (!formula.readTests(0)) {
+            if (!formula.read(FACTS_OF_SEES)) {
                 return false;
             }
             zoo.lawOfSees(formula);
@@ -1268,8 +1262,7 @@ public final class BearTickets {
 
         private boolean readMoods(Zoo zoo) {
             tape.step();
-            formula.begin(FACTS_OF_MOODS);
-            if (!formula.readTests(0)) {
+            if (!formula.read(FACTS_OF_MOODS)) {
                 return false;
             }
             zoo.lawOfMoods(formula);
@@ -1360,6 +1353,17 @@ public final class BearTickets {
             return found != NONE || tape.fail(UNKNOWN);
         }
 
+        // Two names that are told and not the same, partner and found; it stays at the second.
+        private boolean isPair(long[] names, int count) {
+            tape.step();
+            if (!isTold(names, count)) {
+                return false;
+            }
+            partner = found;
+            tape.step();
+            return isTold(names, count) && (found != partner || tape.fail(TWICE));
+        }
+
         private int placeOf(long[] names, int count) {
             for (int i = 0; i < count && i < names.length; i++) {
                 if (names[i] == tape.name) {
@@ -1403,33 +1407,47 @@ public final class BearTickets {
             }
         }
 
-        int worthToKind(int kind, int pen) {
-            return plainWorth[pen] + likedWorth[kind * PENS + pen];
-        }
-
-        private int worthToSet(int set, int pen) {
+        int worthTo(int likedKinds, int pen) {
             int worth = plainWorth[pen];
             for (int kind = 0; kind < KINDS; kind++) {
-                if ((set >> kind & 1) != 0) {
+                if ((likedKinds >> kind & 1) != 0) {
                     worth += likedWorth[kind * PENS + pen];
                 }
             }
             return worth;
         }
 
-        void foresee(Zoo zoo, State state, boolean dry) {
-            weigh(zoo, state);
+        private void freeSeats(Zoo zoo) {
             for (int pen = 0; pen < PENS; pen++) {
                 seatsLeft[pen] = zoo.seats[pen];
                 watchers[pen] = 0;
             }
+        }
+
+        private int choice(Zoo zoo, int likedKinds) {
+            int answer = NONE;
+            int most = 0;
+            for (int pen = 0; pen < zoo.pens; pen++) {
+                int worth = seatsLeft[pen] > 0 ? worthTo(likedKinds, pen) : 0;
+                if (worth > most) {
+                    most = worth;
+                    answer = pen;
+                }
+            }
+            return answer;
+        }
+
+        void foresee(Zoo zoo, State state, boolean dry) {
+            weigh(zoo, state);
+            freeSeats(zoo);
             taken = 0;
             for (int animal = 0; animal < zoo.animals; animal++) {
-                int pen = dry ? choice(zoo, zoo.likes[animal]) : NONE;
+                int likedKinds = 1 << zoo.likes[animal];
+                int pen = dry ? choice(zoo, likedKinds) : NONE;
                 chosen[animal] = pen;
                 paid[animal] = 0;
                 if (pen != NONE) {
-                    paid[animal] = Math.min(state.coins[animal], worthToKind(zoo.likes[animal], pen));
+                    paid[animal] = Math.min(state.coins[animal], worthTo(likedKinds, pen));
                     seatsLeft[pen]--;
                     watchers[pen] |= 1 << animal;
                 }
@@ -1441,18 +1459,6 @@ public final class BearTickets {
                 int watched = Integer.bitCount(watchers[pen]);
                 moodAfter[guest] = zoo.moodAt(fed, state.mood[guest], crowd[pen] - 1, watched);
             }
-        }
-
-        private int choice(Zoo zoo, int kind) {
-            int answer = NONE;
-            int most = 0;
-            for (int pen = 0; pen < zoo.pens; pen++) {
-                if (seatsLeft[pen] > 0 && worthToKind(kind, pen) > most) {
-                    most = worthToKind(kind, pen);
-                    answer = pen;
-                }
-            }
-            return answer;
         }
 
         void pass(Zoo zoo, State state, boolean dry) {
@@ -1480,25 +1486,14 @@ public final class BearTickets {
         // The sets of kinds by which one more animal, alone with all seats, would choose this pen (or NONE).
         int setsChoosing(Zoo zoo, State state, int pen) {
             weigh(zoo, state);
+            freeSeats(zoo);
             int sets = 0;
             for (int set = 0; set < SETS; set++) {
-                if (choiceOfSet(zoo, set) == pen) {
+                if (choice(zoo, set) == pen) {
                     sets |= 1 << set;
                 }
             }
             return sets;
-        }
-
-        private int choiceOfSet(Zoo zoo, int set) {
-            int answer = NONE;
-            int most = 0;
-            for (int pen = 0; pen < zoo.pens; pen++) {
-                if (zoo.seats[pen] > 0 && worthToSet(set, pen) > most) {
-                    most = worthToSet(set, pen);
-                    answer = pen;
-                }
-            }
-            return answer;
         }
 
         // Does a line of the days to the state; false, and nothing is changed, if it can't be.
@@ -1531,38 +1526,94 @@ public final class BearTickets {
         final Hour clock = new Hour();
         final State way = new State();
         final int[] row = new int[GUESTS];
+        // The guests in each pen of the way so far, as bits.
+        final int[] held = new int[PENS];
+        // By how many guests have a pen, a kind and who is in a pen: what that can be worth at the most in the end.
+        final int[] most = new int[(GUESTS + 1) * KINDS * CROWDS];
         boolean fresh;
         boolean found;
         int taken;
         int pacing;
-        int coins;
 
         void search(Zoo zoo, State state) {
             fresh = true;
             found = false;
             way.copy(state);
-            coins = state.coinsTogether(zoo.animals);
+            for (int pen = 0; pen < PENS; pen++) {
+                held[pen] = 0;
+            }
+            for (int kind = 0; kind < KINDS; kind++) {
+                weighCrowds(zoo, kind);
+            }
             place(zoo, 0);
         }
 
-        private void place(Zoo zoo, int guest) {
-            if (guest >= zoo.guests) {
-                judge(zoo);
-                return;
+        private static int spot(int placed, int kind, int crowd) {
+            return (placed * KINDS + kind) * CROWDS + crowd;
+        }
+
+        private void weighCrowds(Zoo zoo, int kind) {
+            for (int crowd = 0; crowd < 1 << zoo.guests; crowd++) {
+                most[spot(zoo.guests, kind, crowd)] = worthOf(zoo, kind, crowd);
             }
-            for (int pen = 0; pen < zoo.pens && !isUnbeatable(); pen++) {
-                if ((way.guestsIn(pen, guest) & zoo.foes[guest]) == 0) {
-                    way.where[guest] = pen;
-                    place(zoo, guest + 1);
+            for (int guest = zoo.guests - 1; guest >= 0; guest--) {
+                for (int crowd = 0; crowd < 1 << guest; crowd++) {
+                    int without = most[spot(guest + 1, kind, crowd)];
+                    int with = most[spot(guest + 1, kind, crowd | 1 << guest)];
+                    most[spot(guest, kind, crowd)] = Math.max(without, with);
                 }
             }
         }
 
-        private boolean isUnbeatable() {
-            return found && taken == coins && pacing == 0;
+        private int worthOf(Zoo zoo, int kind, int crowd) {
+            int others = Integer.bitCount(crowd) - 1;
+            int worth = 0;
+            for (int guest = 0; guest < zoo.guests; guest++) {
+                if ((crowd >> guest & 1) != 0) {
+                    worth += zoo.worthAt(zoo.kinds[guest] == kind ? 1 : 0, way.mood[guest], others);
+                }
+            }
+            return worth;
+        }
+
+        private void place(Zoo zoo, int guest) {
+            if (found && !canBeat(hope(zoo, guest))) {
+                return;
+            }
+            if (guest >= zoo.guests) {
+                judge(zoo);
+                return;
+            }
+            for (int pen = 0; pen < zoo.pens; pen++) {
+                if ((held[pen] & zoo.foes[guest]) == 0) {
+                    way.where[guest] = pen;
+                    held[pen] |= 1 << guest;
+                    place(zoo, guest + 1);
+                    held[pen] &= ~(1 << guest);
+                }
+            }
+        }
+
+        // What is taken at the most if these guests stay where they are: as if all animals had a seat at their best pen.
+        private int hope(Zoo zoo, int placed) {
+            int sum = 0;
+            for (int animal = 0; animal < zoo.animals; animal++) {
+                int best = 0;
+                for (int pen = 0; pen < zoo.pens; pen++) {
+                    if (zoo.seats[pen] > 0) {
+                        best = Math.max(best, most[spot(placed, zoo.likes[animal], held[pen])]);
+                    }
+                }
+                sum += Math.min(best, way.coins[animal]);
+            }
+            return sum;
         }
 
         // The rows come in their order, so an equal one that comes later is not taken.
+        private boolean canBeat(int hoped) {
+            return hoped > taken || (hoped == taken && pacing > 0);
+        }
+
         private void judge(Zoo zoo) {
             clock.foresee(zoo, way, true);
             int paces = clock.pacingAfter(zoo.guests);

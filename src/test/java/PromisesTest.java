@@ -161,6 +161,8 @@ public final class PromisesTest {
         zooFault("pen a seats 1;path a @in 1;", 1);
         zooFault("pen a seats 1;guest b boy mood 9in a;", 0, 0);
         zooFault("pen a seats 1;guest b @king mood 1 in a;", 1);
+        zooFault("pen a seats 1;guest b @not mood 1 in a;", 1);
+        zooFault("pen a seats 1;guest b @hour mood 1 in a;", 1);
         zooFault("pen a seats 1;guest b boy mood @10 in a;", 4);
         zooFault("pen a seats 1;guest b boy mood 1 in @b;", 2);
         zooFault("pen a seats 1;guest b boy mood 1 in @c;", 2);
@@ -224,6 +226,8 @@ public final class PromisesTest {
         zooFault("sees (((((@)))));", 1);
         zooFault("sees (((((@watched;", 1);
         zooFault("sees (((((@liked;", 5);
+        zooFault("moods (((((@fed)))));", 5);
+        zooFault("moods 1+(@);", 1);
         // Values: the worth of a boy's pen, he of mood 3, to one that likes boys.
         law("1+2*3", 7);
         law("10-3-2", 5);
@@ -515,6 +519,24 @@ public final class PromisesTest {
         due("taken", x.show(0), 0);
         x.undo();
         due("taken", x.show(0), 10);
+        x.mark(0, false);
+        x.hour();
+        due("taken", x.show(0), 0);
+        x.mark(0, true);
+        due("taken", x.show(0), 10);
+        x.hour();
+        due("no coins: first of all rows", x.show(2), 0);
+        // Both alone take 5 wherever they are; d paces unless he is seen, so he comes first, in the only seat.
+        x = zoo("pen a seats 1;pen b seats 0;guest c boy mood 5 in a;guest d boy mood 1 in b;animal e likes boy coins 5;moods humour-1+watched;");
+        due("taken", x.show(0), 5);
+        due("pace", x.show(1), 0);
+        due("row", x.show(2), 0);
+        due("row", x.show(3), 0);
+        x = zoo("pen a seats 1;pen b seats 0;guest c boy mood 5 in a;guest d boy mood 1 in b;animal e likes boy coins 5;moods humour-1+watched;foe c d;");
+        due("taken", x.show(0), 5);
+        due("pace", x.show(1), 0);
+        due("row", x.show(2), 1);
+        due("row", x.show(3), 0);
     }
 
     private static void telling() {
