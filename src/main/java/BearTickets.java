@@ -259,10 +259,9 @@ public final class BearTickets {
         int pacing = NONE;
         trial.copy(park.start);
         for (int i = 0; i < now.lineCount; i++) {
-            if (!clock.obey(park, trial, now.lines[i]) && refused == NONE) {
-                refused = i;
-            }
-            if (pacing == NONE && trial.pacing(park.guests) != 0) {
+            if (!clock.obey(park, trial, now.lines[i])) {
+                refused = refused == NONE ? i : refused;
+            } else if (pacing == NONE && trial.pacing(park.guests) != 0) {
                 pacing = i;
             }
         }

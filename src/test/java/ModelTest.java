@@ -327,7 +327,7 @@ public final class ModelTest {
                 boolean ok = true;
                 for (int j = 0; j <= i; j++) { World y = done(x, days.get(j)); ok = y != null; if (ok) x = y; }
                 if (!ok) bad = i;
-                if (paces(x) > 0) pace = i;
+                if (ok && paces(x) > 0) pace = i;
                 if (i == days.size() - 1) w = x;
             }
             return what == 0 ? bad : what == 1 ? pace : w.taken;

@@ -487,7 +487,16 @@ public final class PromisesTest {
         x = zoo("pen a seats 1;guest b boy mood 0 in a;");
         due("no lines", x.judged(1), -1);
         days(x, "tyre b;move b a;hour;");
-        due("paces behind a line that is left out", x.judged(1), 0);
+        due("first that can't be", x.judged(0), 0);
+        due("not behind a line that is left out", x.judged(1), 2);
+        days(x, "move b a;");
+        due("the one line is left out", x.judged(1), -1);
+        x = zoo("pen a seats 1;pen c seats 1;guest b boy mood 0 in a;");
+        days(x, "move b a;tyre b;move b c;move b a;");
+        due("behind the first line that can be", x.judged(1), 2);
+        x = zoo("pen a seats 0;guest b boy mood 1 in a;");
+        days(x, "tyre b;hour;tyre b;");
+        due("a line left out ahead of it is counted all the same", x.judged(1), 1);
     }
 
     private static void showing() {
