@@ -940,10 +940,9 @@ public final class BearTickets {
             this.tape = tape;
         }
 
-        boolean read(int allowedFacts) {
+        void begin(int allowedFacts) {
             allowed = allowedFacts;
             size = 0;
-            return readTests(0);
         }
 
         private void put(int step) {
@@ -953,7 +952,7 @@ public final class BearTickets {
             }
         }
 
-        private boolean readTests(int depth) {
+        boolean readTests(int depth) {
             boolean good = readTest(depth);
             for (int i = 0; good && i < TAPE && (tape.isWord(W_AND) || tape.isWord(W_OR)); i++) {
                 int step = tape.word == W_AND ? AND : OR;
@@ -1252,7 +1251,8 @@ public final class BearTickets {
 
         private boolean readSees(Zoo zoo) {
             tape.step();
-            if (!formula.read(FACTS_OF_SEES)) {
+            formula.begin(FACTS_OF_SEES);
+            if (!formula.readTests(0)) {
                 return false;
             }
             zoo.lawOfSees(formula);
@@ -1261,7 +1261,8 @@ public final class BearTickets {
 
         private boolean readMoods(Zoo zoo) {
             tape.step();
-            if (!formula.read(FACTS_OF_MOODS)) {
+            formula.begin(FACTS_OF_MOODS);
+            if (!formula.readTests(0)) {
                 return false;
             }
             zoo.lawOfMoods(formula);

@@ -1,4 +1,5 @@
 import java.util.Arrays;
+import java.util.List;
 import java.util.NoSuchElementException;
 
 /**
@@ -14,6 +15,7 @@ public final class BoundaryTest {
         "foe", "feeds", "tyre", "costs", "rain", "sees", "moods", "move", "hour", "plain", "poet", "boy", "single", "not",
         "and", "or"};
     private static final String[] FACTS = {"liked", "humour", "others", "watched", "fed"};
+    private static final List<String> KINDS = List.of("plain", "poet", "boy", "single");
 
     // Oak: ann, bob (2 seats); elm: cid (1 seat); ash: dot (no seat). In an hour now the bear sees oak for 2 + 9,
     // the lynx oak for 6, the stork elm for 1.
@@ -225,6 +227,19 @@ public final class BoundaryTest {
         due("feeding begins anew", feed(x, "hour;"), 5);
         due("days", x.days(), 0);
         due("one line", x.count(9), 1);
+        x = new BearTickets();
+        feed(x, "rain 123456789;");
+        due("a longer text", x.zoo(), 1 + 16 * 5);
+        feed(x, "rain 1");
+        due("no digit of it is left behind the end", x.zoo(), 1 + 16 * 6);
+        feed(x, "hour;hours");
+        due("a longer text", x.days(), 1 + 16 * 5);
+        feed(x, "hour;hou");
+        due("no letter of it is left behind the end", x.days(), 1 + 16 * 5);
+        feed(x, "feeds 1;;");
+        due("a longer text", x.zoo(), 1 + 16 * 8);
+        feed(x, "feeds 1");
+        due("no sign of it is left behind the end", x.zoo(), 1 + 16 * 7);
     }
 
     private static void tokens() {
@@ -250,6 +265,7 @@ public final class BoundaryTest {
         zooFault("pen @" + times(900, "a"), 1);
         due("two that differ in the eighth", zoo("pen abcdefgh seats 1;pen abcdefgi seats 1;pen abcdefg seats 1;").count(0), 3);
         due("a and z", zoo("pen a seats 1;pen z seats 1;pen aa seats 1;pen zz seats 1;pen zzzzzzzz seats 1;").count(0), 5);
+        due("one letter and two", zoo("pen b seats 1;pen bb seats 1;pen ab seats 1;pen ba seats 1;pen y seats 1;pen yz seats 1;").count(0), 6);
         zooFault("pen a@` seats 1;", 1);
         zooFault("pen @` seats 1;", 1);
         zooFault("pen z@{ seats 1;", 1);
@@ -304,6 +320,9 @@ public final class BoundaryTest {
         + "guest j single mood 3 in d;guest k plain mood 4 in e;guest l poet mood 9 in f;";
     private static final String FIVE_ANIMALS = "animal m likes plain coins 0;animal n likes poet coins 1;animal o likes boy coins 2;"
         + "animal p likes single coins 3;animal q likes plain coins 999;";
+    // All that a text can tell, so that what is left of it would be seen in the next one.
+    private static final String CROWDED = SIX_PENS + SIX_GUESTS + FIVE_ANIMALS + pairs("path ", "abcdef", " 7;") + pairs("foe ", "ghijkl", ";")
+        + "feeds 0;tyre 9 costs 0;rain 10;sees 50;moods 7;";
 
     private static String pairs(String line, String names, String end) {
         StringBuilder text = new StringBuilder();
@@ -383,6 +402,16 @@ public final class BoundaryTest {
         zooFault("pen a seats 1;guest b boy mood @10 in a;", 4);
         zooFault("pen a seats 1;guest b @king mood 1 in a;", 1);
         zooFault("pen a seats 1;guest b @mood 1 in a;", 1);
+        for (String word : RESERVED) {
+            if (!KINDS.contains(word)) {
+                zooFault("pen a seats 1;guest b @" + word + " mood 1 in a;", 1);
+                zooFault("animal b likes @" + word + " coins 1;", 1);
+            }
+        }
+        for (String word : FACTS) {
+            zooFault("pen a seats 1;guest b @" + word + " mood 1 in a;", 1);
+            zooFault("animal b likes @" + word + " coins 1;", 1);
+        }
         zooFault("guest b boy mood 1 in @a;pen a seats 1;", 2);
         zooFault("pen a seats 1;guest b boy mood 1 in @b;", 2);
         zooFault("animal a likes boy coins 1;guest b boy mood 1 in @a;", 2);
@@ -607,6 +636,10 @@ public final class BoundaryTest {
         law("20-3+2", 19);
         law("2+3*4", 14);
         law("2*3*4-4*5", 4);
+        law("1" + times(94, "+1"), 95);
+        law("1" + times(450, "+1") + "-410", 41);
+        law("1" + times(450, "*1"), 1);
+        law("0" + times(180, " or 0") + " or 9", 1);
         zooFault("sees @-1;", 1);
         zooFault("sees @+1;", 1);
         zooFault("sees 1+@;", 1);
@@ -666,6 +699,13 @@ public final class BoundaryTest {
         law("not 2", 0);
         law("not 0", 1);
         law("7 and 7 and 7", 1);
+        law("(5 and 0)+7", 7);
+        law("(0 or 0)+7", 7);
+        law("(3<3)+7", 7);
+        law("(2=3)+7", 7);
+        law("not 5+7", 7);
+        law("(5 and 9)*7", 7);
+        law("(5 or 9)*7", 7);
 
         sentence("3, 8", "ints wrap");
         // 9999 * 9999 is 99,980,001: 21 of it are 2,099,580,021, 22 are beyond 2 ^ 31, 43 are 2 ^ 32 + 4,172,747.
@@ -846,6 +886,47 @@ public final class BoundaryTest {
         due("no rain", x.rain(0, 1), 0);
         due("a tyre costs 5", x.tyre(0), -1);
         due("move to one who was a foe", x.move(0, 1), true);
+        x = zoo(CROWDED);
+        for (int i = 0; i < 2; i++) {
+            feed(x, CROWDED);
+            due("the same again", x.zoo(), 0);
+        }
+        feed(x, "pen g seats 1;pen h seats 1;pen m seats 1;guest a boy mood 0 in g;guest b poet mood 0 in h;animal l likes plain coins 10;");
+        due("its names for others", x.zoo(), 0);
+        due("no path", x.walk(0, 0), -1);
+        due("paths", x.count(3), 0);
+        due("foes", x.count(4), 0);
+        due("worth by the plain law", x.worth(0, 0), 0);
+        due("mood by the plain law", x.guest(0, 3), 0);
+        due("not fed", x.guest(1, 3), 0);
+        due("no rain", x.years(1, 3, 0), 0);
+        due("a tyre costs 5", x.tyre(0), -1);
+        due("a tyre is 3", x.tyres(), 3);
+        due("no foe is there", x.move(0, 1), true);
+        for (String gone : new String[] {"c", "d", "i", "k", "q"}) {
+            daysFault(x, "tyre @" + gone + ";", 2);
+            daysFault(x, "move a @" + gone + ";", 2);
+        }
+        due("no guest of that name", feed(x, "tyre l;"), 7);
+        due("no guest of that name", x.days(), 2 + 16 * 5);
+        for (int i = 0; i < 2; i++) {
+            feed(x, CROWDED);
+            due("the same again", x.zoo(), 0);
+        }
+        feed(x, "pen a seats 1;guest g boy mood 0 in a;animal m likes poet coins 9;sees 7;moods 3;rain 0;");
+        due("other laws", x.zoo(), 0);
+        due("worth by them", x.worth(0, 0), 7);
+        due("mood by them", x.guest(0, 3), 3);
+        for (int i = 0; i < 2; i++) {
+            feed(x, CROWDED);
+            due("the same again", x.zoo(), 0);
+        }
+        feed(x, "pen a seats 1;guest g boy mood 1 in a;animal m likes boy coins 9;moods watched;");
+        due("no rain told", x.zoo(), 0);
+        due("it does not rain", x.rain(0, 6), 0);
+        x = zoo("pen a seats 1;guest g boy mood 3 in a;animal m likes boy coins 9;moods 7 and not 0;sees not 7;");
+        due("of a shorter law no more than it says", x.worth(0, 0), 0);
+        due("of the longer one", x.guest(0, 3), 1);
 
         sentence("1, 3", "At first: nothing");
         x = new BearTickets();
@@ -975,6 +1056,11 @@ public final class BoundaryTest {
             due("neither", x.worth(index, index), -1);
         }
         due("nothing is changed by looking", x.count(5) + x.count(6) + x.count(11), 0);
+        x = zoo("pen a seats 1;guest b plain mood 1 in a;guest c single mood 1 in a;animal d likes plain coins 9;animal e likes single coins 9;");
+        for (int i = 0; i < 3; i++) {
+            due("the same again", x.worth(0, 0), 5);
+            due("the same again", x.worth(1, 0), 5);
+        }
     }
 
     // ==== An hour
@@ -1075,6 +1161,12 @@ public final class BoundaryTest {
         due("in all", x.count(6), 31);
         due("no pens", zoo("animal a likes boy coins 9;").hour(), 0);
         due("no animals", zoo("pen a seats 9;guest b boy mood 9 in a;").hour(), 0);
+        // All five see the last pen: 0 coins, 1, 2, 3, and one pays in full.
+        x = zoo(SIX_PENS + SIX_GUESTS + FIVE_ANIMALS + "sees (humour=9)*50;moods watched;");
+        due("six pens, six guests, five animals", x.hour(), 0 + 1 + 2 + 3 + 50);
+        due("coins", x.count(8), 949);
+        due("they pace but for the last", x.count(7), 31);
+        due("watched by five", x.guest(5, 1), 5);
         due("no guests", zoo("pen a seats 9;animal c likes boy coins 9;sees 9;").hour(), 0);
 
         sentence("26", "A GUEST of mood 0 PACES");
@@ -1285,6 +1377,59 @@ public final class BoundaryTest {
 
     // ==== The best show
 
+    private static boolean areFoes(String foes, int one, int other) {
+        String[] names = {"ann", "bob", "cid", "dot"};
+        return foes.contains("foe " + names[one] + " " + names[other] + ";");
+    }
+
+    private static boolean isWay(String foes, int[] row) {
+        for (int one = 0; one < 4; one++) {
+            for (int other = one + 1; other < 4; other++) {
+                if (row[one] == row[other] && areFoes(foes, one, other)) {
+                    return false;
+                }
+            }
+        }
+        return true;
+    }
+
+    // Each of the 81 ways is made by moves, and what an hour would bring is asked of each animal and guest.
+    private static void tryAllWays(String text, String foes, int hours) {
+        int taken = -1;
+        int pacing = 0;
+        int[] best = new int[4];
+        for (int way = 0; way < 81; way++) {
+            int[] row = {way / 27, way / 9 % 3, way / 3 % 3, way % 3};
+            if (!isWay(foes, row)) {
+                continue;
+            }
+            BearTickets x = new BearTickets();
+            feed(x, text);
+            x.zoo();
+            hours(x, hours);
+            int paces = 0;
+            for (int guest = 0; guest < 4; guest++) {
+                x.move(guest, row[guest]);
+            }
+            for (int guest = 0; guest < 4; guest++) {
+                paces += x.guest(guest, 3) == 0 ? 1 : 0;
+            }
+            int takes = x.animal(0, 3) + x.animal(1, 3) + x.animal(2, 3);
+            if (takes > taken || takes == taken && paces < pacing) {
+                taken = takes;
+                pacing = paces;
+                best = row;
+            }
+        }
+        BearTickets x = zoo(text + foes);
+        hours(x, hours);
+        due("taken by " + text + foes, x.show(0), taken);
+        due("pace by " + text + foes, x.show(1), pacing);
+        for (int guest = 0; guest < 4; guest++) {
+            due("row by " + text + foes, x.show(2 + guest), best[guest]);
+        }
+    }
+
     private static void showing() {
         sentence("14", "SHOW: taken, how many PACE, the PEN of the i-th GUEST; NONE: others");
         BearTickets x = zoo(PARK);
@@ -1333,8 +1478,18 @@ public final class BoundaryTest {
         x = zoo(pair + "5;");
         due("taken", x.show(0), 5);
         due("nobody paces", x.show(1), 0);
+        x = zoo(pair.replaceAll("seats .", "seats 0") + "5;");
+        due("no seats: taken", x.show(0), 0);
+        due("no seats: nobody paces", x.show(1), 0);
+        due("no seats: row", x.show(2), 0);
+        due("no seats: row", x.show(3), 1);
+        x = zoo(pair + "0;");
+        due("no coins: taken", x.show(0), 0);
+        due("no coins: nobody paces", x.show(1), 0);
+        due("no coins: row", x.show(3), 1);
 
         sentence("14", "then the first row (of GUESTS, by numbers)");
+        x = zoo(pair + "5;");
         due("row", x.show(2), 0);
         due("row", x.show(3), 1);
         x = zoo("pen a seats 0;pen e seats 1;guest b boy mood 1 in e;guest c boy mood 1 in e;sees 5;moods 1;animal d likes boy coins 5;");
@@ -1356,6 +1511,7 @@ public final class BoundaryTest {
         x.undo();
         due("undone", x.show(0), 3);
         x.hour();
+        due("none left", x.show(0), 0);
         x.mark(0, true);
         due("gone back to", x.show(0), 3);
         feed(x, "pen a seats 1;guest b boy mood 1 in a;animal c likes boy coins 5;tyre 9 costs 0;sees humour;");
@@ -1363,6 +1519,20 @@ public final class BoundaryTest {
         due("another zoo", x.show(0), 1);
         x.tyre(0);
         due("by a tyre", x.show(0), 5);
+
+        sentence("14", "of all ways ... the one by which most is taken, the fewest PACE, the first row: each way tried by hand");
+        String[] foesOf = {"", "foe ann cid;", "foe ann cid;foe bob dot;foe ann dot;"};
+        String[] laws = {"", "sees liked*4+humour-others*2;moods humour-2+watched;", "sees humour*others;moods watched+others-1;",
+            "sees (2-others)*liked*6;moods (others=1)+watched*2;"};
+        for (String foes : foesOf) {
+            for (String law : laws) {
+                String text = PARK.replace("foe ann cid;", "").replace("ash seats 0", "ash seats 1") + law;
+                for (int hours = 0; hours < 3; hours++) {
+                    tryAllWays(text, foes, hours);
+                    tryAllWays(text.replace("likes boy", "likes plain"), foes, hours);
+                }
+            }
+        }
     }
 
     // ==== One more animal
@@ -1440,6 +1610,19 @@ public final class BoundaryTest {
         due("in all", x.sets(1), 8);
         due("in some", x.sets(2), 15);
         due("smallest, though 8 is more than others", x.sets(3), 8);
+        x = zoo("pen a seats 1;guest b plain mood 0 in a;");
+        x.tell(0);
+        due("in all", x.sets(1), 1);
+        due("in some", x.sets(2), 15);
+        due("smallest", x.sets(3), 1);
+        // All four kinds are 12, three are 9, as much as elm, which is the first.
+        x = zoo("pen elm seats 1;pen oak seats 1;guest b plain mood 0 in oak;guest c poet mood 0 in oak;guest d boy mood 0 in oak;"
+            + "guest e single mood 0 in oak;guest f boy mood 9 in elm;sees liked*3*(humour=0)+humour;");
+        x.tell(1);
+        due("it likes all", x.sets(0), 1);
+        due("in all", x.sets(1), 15);
+        due("in some", x.sets(2), 15);
+        due("smallest", x.sets(3), 15);
         // Elm is 4, and 3 more for plain; oak, behind it, 3 for poets and 3 for boys: above elm by both, without plain.
         x = zoo("pen elm seats 1;pen oak seats 1;guest b plain mood 4 in elm;guest c poet mood 0 in oak;guest d boy mood 0 in oak;"
             + "sees liked*3+humour;");
@@ -1626,6 +1809,10 @@ public final class BoundaryTest {
         x = zoo("pen a seats 0;pen b seats 0;pen c seats 0;guest d boy mood 1 in c;path a b 3;path b c 4;path a c 8;");
         due("a shorter way round", x.walk(0, 0), 7);
         due("b is not of the order", x.walk(0, 1), 2);
+        x = zoo("pen a seats 0;pen b seats 0;pen c seats 0;guest d boy mood 1 in c;path a b 3;path a c 4;");
+        due("by the first pen", x.walk(1, 0), 7);
+        x = zoo("pen b seats 0;pen c seats 0;pen a seats 0;guest d boy mood 1 in c;path a b 3;path a c 4;");
+        due("by the last pen", x.walk(0, 0), 7);
 
         sentence("20", "the first order of these (by PENS) that takes no more");
         x = zoo("pen a seats 0;pen b seats 0;pen c seats 0;guest d boy mood 1 in c;guest e boy mood 1 in b;path a b 3;path b c 4;path a c 3;");
@@ -1735,6 +1922,12 @@ public final class BoundaryTest {
         due("b", x.rain(0, 1), 300000);
         due("e", x.rain(1, 1), 1000000);
         due("any", x.rain(-1, 1), 1000000);
+        x = zoo(SIX_PENS + SIX_GUESTS + "moods 0<humour;rain 5;");
+        due("the first alone", x.rain(-1, 1), 1000000);
+        x = zoo(SIX_PENS + SIX_GUESTS.replaceAll("mood 9", "mood 0").replaceAll("g plain mood 0", "g plain mood 1") + "moods 0<humour;rain 5;");
+        due("the last alone", x.rain(-1, 1), 1000000);
+        x = zoo(SIX_PENS + SIX_GUESTS + "moods 1;rain 5;");
+        due("nobody", x.rain(-1, 6), 0);
 
         sentence("23", "FIRST; NONE: others, no GUESTS");
         x = zoo(PARK);
