@@ -3,12 +3,13 @@ import java.lang.reflect.Constructor;
 import java.lang.reflect.Field;
 import java.lang.reflect.Method;
 import java.lang.reflect.Modifier;
+import java.util.HashSet;
 import java.util.NoSuchElementException;
 import java.util.Random;
 import java.util.Set;
 import java.util.TreeSet;
 
-/** The form of the class: its face, that no call throws by itself, and that calls make no objects. */
+/** The form of the class: its face and limits, that no call throws by itself, and that calls make no objects. */
 public final class FormTest {
     private static int wrong = 0;
     private static final Random random = new Random(3);
@@ -36,6 +37,8 @@ public final class FormTest {
                     b.append(i == 0 ? "" : ",").append(m.getParameterTypes()[i].getName());
                 }
                 got.add(b.append(')').toString());
+                Set<Class<?>> thrown = m.getName().equals("rests") ? Set.of(NoSuchElementException.class) : Set.of();
+                must(Set.of(m.getExceptionTypes()).equals(thrown), m + " throws something else");
                 names.add(m.getName());
             } else {
                 must(Modifier.isPrivate(m.getModifiers()), m + " is seen from outside");
@@ -51,9 +54,34 @@ public final class FormTest {
         for (Constructor<?> c : BearTickets.class.getDeclaredConstructors()) {
             must(Modifier.isPublic(c.getModifiers()) && c.getParameterCount() == 0, c + " is no constructor of the face");
         }
+        int constant = Modifier.PUBLIC | Modifier.STATIC | Modifier.FINAL;
+        for (Field f : BearTickets.class.getFields()) {
+            must(f.getModifiers() == constant && f.getType() == int.class, f + " is no constant of the face");
+        }
+        must(BearTickets.class.getFields().length == 1 && BearTickets.NONE == -1, "NONE is not as told");
         must(Modifier.isFinal(BearTickets.class.getModifiers()), "the class is not final");
         for (Class<?> c : BearTickets.class.getDeclaredClasses()) {
             must(Modifier.isStatic(c.getModifiers()), c + " is not static");
+        }
+    }
+
+    // LANGUAGE.md, rules 1, 5 and 11, as far as they can be seen in the compiled class.
+    private static void limits() {
+        Class<?>[] inside = BearTickets.class.getDeclaredClasses();
+        must(inside.length < 12, inside.length + " classes inside");
+        Set<Class<?>> all = new HashSet<>(Set.of(inside));
+        all.add(BearTickets.class);
+        for (Class<?> c : all) {
+            int fields = 0;
+            for (Field f : c.getDeclaredFields()) {
+                boolean constant = Modifier.isStatic(f.getModifiers());
+                fields += constant ? 0 : 1;
+                must(!constant || Modifier.isFinal(f.getModifiers()), f + " is static and not final");
+            }
+            must(fields <= 20, c + " has " + fields + " fields");
+            for (Method m : c.getDeclaredMethods()) {
+                must(m.getParameterCount() <= 7, m + " takes more than seven");
+            }
         }
     }
 
@@ -181,6 +209,7 @@ public final class FormTest {
 
     public static void main(String[] args) {
         face();
+        limits();
         neverThrows();
         makesNothing();
         System.out.println(wrong == 0 ? "the form is as due" : wrong + " things are not as due");
